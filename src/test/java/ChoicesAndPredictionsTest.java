@@ -158,6 +158,10 @@ public final class ChoicesAndPredictionsTest {
         BalloonPost edge = Checks.after("street 8;leak 8;balloon 0 25 9;balloon 0 26 9;launch 0;launch 1;");
         CHECKS.same("200 hours", edge.hoursToSink(0), 200);
         CHECKS.same("208 hours", edge.hoursToSink(1), -1);
+        BalloonPost justOver = Checks.after("street 8;leak 9;balloon 0 23 9;hours 6;launch 0;");
+        CHECKS.same("201 hours", justOver.hoursToSink(0), -1);
+        justOver.passHours(1);
+        CHECKS.same("an hour later it is 200", justOver.hoursToSink(0), 200);
         BalloonPost over = Checks.after("street 8;leak 3;balloon 0 30 9;hours 1;launch 0;");
         CHECKS.same("30 leaks", over.hoursToSink(0), 89);
         over.moor(0);

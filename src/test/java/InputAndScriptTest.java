@@ -18,6 +18,8 @@ public final class InputAndScriptTest {
         laterRepetition();
         firstErrorCounts();
         everyCommand();
+        endOfTheBuffer();
+        scriptsOnOneObject();
         CHECKS.finish();
     }
 
@@ -320,6 +322,52 @@ public final class InputAndScriptTest {
         CHECKS.same("leak", post.setLeak(1), 4);
         BalloonPost freed = Checks.after("street 8;tree 1 9;gust east 1;balloon 0 9 9;launch 0;hours 1;free 0;");
         CHECKS.same("free", freed.lift(0), 7);
+    }
+
+    /** What was cut off, and what lies behind the last byte of a full buffer, is no part of the script. */
+    private static void endOfTheBuffer() {
+        cutOff("street 8;gas 1|2;", 14);
+        cutOff("street 8;ga|s 12;", 9);
+        cutOff("street 8;gas| 12;", 12);
+        cutOff("street 8;gas |  12;", 13);
+        cutOff("street 8;gas 12|;", 15);
+        cutOff("street 8;| gas 12;", -1);
+        String blanks = " ".repeat(600 - "street 8;gas 1".length());
+        good("street 8;" + blanks + "gas1;");
+        good("street 8;gas 1" + blanks.substring(1) + ";");
+        good("street 8;leak1;" + blanks.substring(1));
+        bad(1, "street 8;gas " + blanks + "1^");
+        bad(1, "street 8;gas 1" + blanks + "^");
+        bad(1, "street 8; " + blanks + "^east");
+    }
+
+    /** Only what stands in front of the stroke is executed. */
+    private static void cutOff(String marked, int offset) {
+        BalloonPost post = new BalloonPost();
+        Checks.feed(post, marked.replace("|", ""));
+        post.truncateInput(marked.indexOf('|'));
+        CHECKS.same(marked + ": answer", post.runScript(), offset < 0 ? 0 : -1);
+        CHECKS.same(marked + ": offset", post.scriptErrorOffset(), offset);
+    }
+
+    /** A script begins afresh, however the one before it ended. */
+    private static void scriptsOnOneObject() {
+        BalloonPost post = new BalloonPost();
+        CHECKS.same("ends in a repeat", Checks.run(post, "street 8;repeat 2(repeat 2(gas"), -1);
+        CHECKS.same("no repeat is open", Checks.run(post, "street 8;)"), -1);
+        CHECKS.same("offset", post.scriptErrorOffset(), 9);
+        CHECKS.same("ends in a repeat", Checks.run(post, "street 8;repeat 2(repeat 2(gas"), -1);
+        CHECKS.same("two repeats may be open", Checks.run(post, "street 8;repeat 2(repeat 2(gas 1;););"), 0);
+        CHECKS.same("gas", post.gas(), 54);
+        CHECKS.same("200 commands", Checks.run(post, "street 8;repeat 20(repeat 10(leak 1;););"), 0);
+        CHECKS.same("200 commands again", Checks.run(post, "street 8;repeat 20(repeat 10(leak 1;););"), 0);
+        Checks.run(post, "street 8;leak 1;balloon 3 9 9;parcel 8 3 4 5;tie 0 0;launch 0;hours 1;parcel 1 3 4 6;");
+        CHECKS.same("it lost lift", post.violations(), 0);
+        Checks.run(post, "street 8;balloon 0 5 9;");
+        CHECKS.same("what the balloons before it lost is forgotten", post.violations(), 0);
+        CHECKS.same("parcels before it lie nowhere", post.parcelsAt(3), 0);
+        CHECKS.same("parcels before it have no numbers", post.parcelWith(5), -1);
+        CHECKS.same("the balloon carries none of them", post.parcelsOf(0), 0);
     }
 
     // ---- the forms of the checks
