@@ -114,71 +114,71 @@ public final class InputAndScriptTest {
     }
 
     private static void tokens() {
-        good(" \n street\n\n8 ;  \n gas\n5;\n ");
-        good("street8;roof1 2;gust east3;");
-        good("street 008;roof 000 09;");
-        bad(1, "^");
-        bad(1, "   ^");
-        bad(1, "street^\t8;");
-        bad(1, "street ^0008;");
-        bad(1, "street ^1000;");
-        bad(1, "street ^99999999999999999999;");
-        bad(1, "street 8;roof ^0000 1;");
-        bad(1, "^Street 8;");
-        bad(1, "^strEet 8;");
-        bad(1, "street 8;^,");
-        bad(1, "street 8;^\u00e9");
-        bad(1, "street 8;^\0");
-        bad(1, "street 8;^roofs 1 2;");
-        bad(1, "street 8;^roo 1 2;");
-        bad(1, "street 8;roof 1^-2;");
-        bad(1, "street 8;roof 1^x2;");
-        bad(1, "street 8;^gaseast 2;");
-        bad(1, "street 8;gas^\r2;");
+        CHECKS.good(" \n street\n\n8 ;  \n gas\n5;\n ");
+        CHECKS.good("street8;roof1 2;gust east3;");
+        CHECKS.good("street 008;roof 000 09;");
+        CHECKS.bad(1, "^");
+        CHECKS.bad(1, "   ^");
+        CHECKS.bad(1, "street^\t8;");
+        CHECKS.bad(1, "street ^0008;");
+        CHECKS.bad(1, "street ^1000;");
+        CHECKS.bad(1, "street ^99999999999999999999;");
+        CHECKS.bad(1, "street 8;roof ^0000 1;");
+        CHECKS.bad(1, "^Street 8;");
+        CHECKS.bad(1, "^strEet 8;");
+        CHECKS.bad(1, "street 8;^,");
+        CHECKS.bad(1, "street 8;^\u00e9");
+        CHECKS.bad(1, "street 8;^\0");
+        CHECKS.bad(1, "street 8;^roofs 1 2;");
+        CHECKS.bad(1, "street 8;^roo 1 2;");
+        CHECKS.bad(1, "street 8;roof 1^-2;");
+        CHECKS.bad(1, "street 8;roof 1^x2;");
+        CHECKS.bad(1, "street 8;^gaseast 2;");
+        CHECKS.bad(1, "street 8;gas^\r2;");
     }
 
     private static void grammar() {
-        bad(1, "^gas 5;street 8;");
-        bad(1, "^8;");
-        bad(1, "street ^;");
-        bad(1, "street 8 ^9;");
-        bad(1, "street 8 ^");
-        bad(1, "street 8;^;");
-        bad(1, "street 8;^8;");
-        bad(1, "street 8;^(");
-        bad(1, "street 8;^);");
-        bad(1, "street 8;^street 8;");
-        bad(1, "street 8;^east 8;");
-        bad(1, "street 8;roof ^;");
-        bad(1, "street 8;roof ^roof 1;");
-        bad(1, "street 8;roof 1^;");
-        bad(1, "street 8;roof 1 2 ^3;");
-        bad(1, "street 8;gust ^2;");
-        bad(1, "street 8;gust ^north 2;");
-        bad(1, "street 8;gust east ^west 2;");
-        bad(1, "street 8;repeat ^(gas 1;);");
-        bad(1, "street 8;repeat 2 ^gas 1;");
-        bad(1, "street 8;repeat 2^;");
-        bad(1, "street 8;repeat 2(gas 1;);^;");
-        bad(1, "street 8;repeat 2(gas 1;) ^gas 1;");
-        bad(1, "street 8;repeat 2(gas 1^);");
-        bad(1, "street^");
-        bad(1, "street 8^");
-        bad(1, "street 8;gas^");
-        bad(1, "street 8;gas 5^");
-        bad(1, "street 8;gas 5   ^");
-        bad(1, "street 8;repeat^");
-        bad(1, "street 8;repeat 2^");
-        bad(1, "street 8;repeat 2(^");
-        bad(1, "street 8;repeat 2(gas 1;^");
-        bad(1, "street 8;repeat 2(gas 1;)^");
-        bad(1, "street 8;repeat 2(gas 1;)\n ^");
+        CHECKS.bad(1, "^gas 5;street 8;");
+        CHECKS.bad(1, "^8;");
+        CHECKS.bad(1, "street ^;");
+        CHECKS.bad(1, "street 8 ^9;");
+        CHECKS.bad(1, "street 8 ^");
+        CHECKS.bad(1, "street 8;^;");
+        CHECKS.bad(1, "street 8;^8;");
+        CHECKS.bad(1, "street 8;^(");
+        CHECKS.bad(1, "street 8;^);");
+        CHECKS.bad(1, "street 8;^street 8;");
+        CHECKS.bad(1, "street 8;^east 8;");
+        CHECKS.bad(1, "street 8;roof ^;");
+        CHECKS.bad(1, "street 8;roof ^roof 1;");
+        CHECKS.bad(1, "street 8;roof 1^;");
+        CHECKS.bad(1, "street 8;roof 1 2 ^3;");
+        CHECKS.bad(1, "street 8;gust ^2;");
+        CHECKS.bad(1, "street 8;gust ^north 2;");
+        CHECKS.bad(1, "street 8;gust east ^west 2;");
+        CHECKS.bad(1, "street 8;repeat ^(gas 1;);");
+        CHECKS.bad(1, "street 8;repeat 2 ^gas 1;");
+        CHECKS.bad(1, "street 8;repeat 2^;");
+        CHECKS.bad(1, "street 8;repeat 2(gas 1;);^;");
+        CHECKS.bad(1, "street 8;repeat 2(gas 1;) ^gas 1;");
+        CHECKS.bad(1, "street 8;repeat 2(gas 1^);");
+        CHECKS.bad(1, "street^");
+        CHECKS.bad(1, "street 8^");
+        CHECKS.bad(1, "street 8;gas^");
+        CHECKS.bad(1, "street 8;gas 5^");
+        CHECKS.bad(1, "street 8;gas 5   ^");
+        CHECKS.bad(1, "street 8;repeat^");
+        CHECKS.bad(1, "street 8;repeat 2^");
+        CHECKS.bad(1, "street 8;repeat 2(^");
+        CHECKS.bad(1, "street 8;repeat 2(gas 1;^");
+        CHECKS.bad(1, "street 8;repeat 2(gas 1;)^");
+        CHECKS.bad(1, "street 8;repeat 2(gas 1;)\n ^");
     }
 
     private static void ranges() {
-        bad(2, "street ^7;");
-        bad(2, "street ^31;");
-        good("street 30;roof 29 9;");
+        CHECKS.bad(2, "street ^7;");
+        CHECKS.bad(2, "street ^31;");
+        CHECKS.good("street 30;roof 29 9;");
         edges("roof ", "0 0;", "7 9;", null, "8 0;");
         edges("roof 0 ", "0;", "9;", null, "10;");
         edges("tree ", "0 0;", "7 9;", null, "8 0;");
@@ -201,58 +201,58 @@ public final class InputAndScriptTest {
 
     private static void edges(String start, String least, String most, String under, String over) {
         String head = "street 8;" + start;
-        good(head + least);
-        good(head + most);
+        CHECKS.good(head + least);
+        CHECKS.good(head + most);
         if (under != null) {
-            bad(2, head + "^" + under);
+            CHECKS.bad(2, head + "^" + under);
         }
-        bad(2, head + "^" + over);
+        CHECKS.bad(2, head + "^" + over);
     }
 
     private static void things() {
         String head = "street 8;balloon 0 9 9;parcel 1 0 1 7;";
-        bad(2, head + "tie ^1 0;");
-        bad(2, head + "tie 0 ^1;");
-        bad(2, head + "untie ^1;");
-        bad(2, head + "launch ^1;");
-        bad(2, head + "moor ^1;");
-        bad(2, head + "free ^1;");
-        bad(2, head + "fill ^1 1;");
-        bad(2, head + "claim ^8 7;");
-        bad(2, head + "claim 1 ^7;");
-        bad(2, head + "claim 0 ^8;");
-        bad(2, head + "claim 0 ^999;");
-        bad(2, head + "tie 0 0;claim 0 ^7;");
-        bad(2, head + "claim 0 7;claim 0 ^7;");
-        bad(2, "street 8;tie ^0 0;");
-        good(head + "claim 0 7;");
+        CHECKS.bad(2, head + "tie ^1 0;");
+        CHECKS.bad(2, head + "tie 0 ^1;");
+        CHECKS.bad(2, head + "untie ^1;");
+        CHECKS.bad(2, head + "launch ^1;");
+        CHECKS.bad(2, head + "moor ^1;");
+        CHECKS.bad(2, head + "free ^1;");
+        CHECKS.bad(2, head + "fill ^1 1;");
+        CHECKS.bad(2, head + "claim ^8 7;");
+        CHECKS.bad(2, head + "claim 1 ^7;");
+        CHECKS.bad(2, head + "claim 0 ^8;");
+        CHECKS.bad(2, head + "claim 0 ^999;");
+        CHECKS.bad(2, head + "tie 0 0;claim 0 ^7;");
+        CHECKS.bad(2, head + "claim 0 7;claim 0 ^7;");
+        CHECKS.bad(2, "street 8;tie ^0 0;");
+        CHECKS.good(head + "claim 0 7;");
     }
 
     private static void refusals() {
-        good("street 8;repeat 8(balloon 0 9 9;);");
-        bad(3, "street 8;repeat 8(balloon 0 9 9;);balloon 0 9 9^;");
-        good("street 8;repeat 12(gust east 1;);");
-        bad(3, "street 8;repeat 12(gust east 1;);gust west 0^;");
-        good("street 8;repeat 16(parcel 1 0 1 7;claim 0 7;);");
-        bad(3, "street 8;repeat 16(parcel 1 0 1 7;claim 0 7;);parcel 1 0 1 7^;");
-        bad(3, "street 8;parcel 1 0 1 7;parcel 1 2 1 7 ^;");
+        CHECKS.good("street 8;repeat 8(balloon 0 9 9;);");
+        CHECKS.bad(3, "street 8;repeat 8(balloon 0 9 9;);balloon 0 9 9^;");
+        CHECKS.good("street 8;repeat 12(gust east 1;);");
+        CHECKS.bad(3, "street 8;repeat 12(gust east 1;);gust west 0^;");
+        CHECKS.good("street 8;repeat 16(parcel 1 0 1 7;claim 0 7;);");
+        CHECKS.bad(3, "street 8;repeat 16(parcel 1 0 1 7;claim 0 7;);parcel 1 0 1 7^;");
+        CHECKS.bad(3, "street 8;parcel 1 0 1 7;parcel 1 2 1 7 ^;");
         String head = "street 8;balloon 0 3 9;balloon 1 9 9;parcel 3 0 1 7;parcel 2 0 1 8;";
-        bad(3, head + "tie 0 0^;");
-        bad(3, head + "tie 1 1^;");
-        bad(3, head + "untie 0^;");
-        bad(3, head + "moor 0^;");
-        bad(3, head + "free 0^;");
-        bad(3, head + "launch 0;launch 0^;");
-        bad(3, head + "tree 0 3;launch 0^;");
-        bad(3, head + "launch 0;fill 0 1^;");
-        bad(3, head + "fill 0 28^;");
-        bad(3, head + "fill 0 27;balloon 0 1 1;fill 2 24 \n^;");
-        good(head + "fill 0 27;balloon 0 1 1;fill 2 23;");
-        bad(3, head + "tie 1 0;launch 0;untie 1^;");
-        bad(3, "street 8;repeat 4(gas 200;);gas 150^;");
-        good("street 8;repeat 4(gas 200;);gas 149;");
-        bad(3, "street 8;repeat 20(hours 24;hours 24;);hours 24;hours 16^;");
-        good("street 8;repeat 20(hours 24;hours 24;);hours 24;hours 15;");
+        CHECKS.bad(3, head + "tie 0 0^;");
+        CHECKS.bad(3, head + "tie 1 1^;");
+        CHECKS.bad(3, head + "untie 0^;");
+        CHECKS.bad(3, head + "moor 0^;");
+        CHECKS.bad(3, head + "free 0^;");
+        CHECKS.bad(3, head + "launch 0;launch 0^;");
+        CHECKS.bad(3, head + "tree 0 3;launch 0^;");
+        CHECKS.bad(3, head + "launch 0;fill 0 1^;");
+        CHECKS.bad(3, head + "fill 0 28^;");
+        CHECKS.bad(3, head + "fill 0 27;balloon 0 1 1;fill 2 24 \n^;");
+        CHECKS.good(head + "fill 0 27;balloon 0 1 1;fill 2 23;");
+        CHECKS.bad(3, head + "tie 1 0;launch 0;untie 1^;");
+        CHECKS.bad(3, "street 8;repeat 4(gas 200;);gas 150^;");
+        CHECKS.good("street 8;repeat 4(gas 200;);gas 149;");
+        CHECKS.bad(3, "street 8;repeat 20(hours 24;hours 24;);hours 24;hours 16^;");
+        CHECKS.good("street 8;repeat 20(hours 24;hours 24;);hours 24;hours 15;");
     }
 
     private static void repeats() {
@@ -260,53 +260,53 @@ public final class InputAndScriptTest {
         CHECKS.same("repeat in a repeat", Checks.after("street 8;repeat 3 ( gas 1; repeat 4 ( gas 2; ) ; ) ;gas 1;").gas(), 50 + 3 * 9 + 1);
         CHECKS.same("empty", Checks.after("street 8;repeat 20(repeat 20(););gas 1;").gas(), 51);
         CHECKS.same("two in one", Checks.after("street 8;repeat 2(repeat 2(gas 1;);repeat 3(gas 1;););").gas(), 60);
-        bad(4, "street 8;repeat 1(repeat 1(^repeat 1(gas 1;);););");
-        bad(4, "street 8;repeat 1(repeat 1(^repeat");
-        bad(4, "street 8;repeat 1(repeat 1(gas 1;gas 1;^repeat 0");
-        bad(1, "street 8;repeat 1(repeat 1(^repeats");
-        bad(1, "street 8;repeat 1(repeat 1(gas ^repeat");
+        CHECKS.bad(4, "street 8;repeat 1(repeat 1(^repeat 1(gas 1;);););");
+        CHECKS.bad(4, "street 8;repeat 1(repeat 1(^repeat");
+        CHECKS.bad(4, "street 8;repeat 1(repeat 1(gas 1;gas 1;^repeat 0");
+        CHECKS.bad(1, "street 8;repeat 1(repeat 1(^repeats");
+        CHECKS.bad(1, "street 8;repeat 1(repeat 1(gas ^repeat");
         StringBuilder longest = new StringBuilder("street 8;repeat 20(");
         while (longest.length() + 12 <= 597) {
             longest.append("repeat 20();");
         }
-        good(longest.append(");").toString());
+        CHECKS.good(longest.append(");").toString());
     }
 
     private static void tooManyCommands() {
         String full = "street 8;repeat 20(repeat 10(leak 1;););";
-        good(full);
-        good(full + "repeat 20();");
-        bad(5, full + "^leak 1;");
-        bad(5, full + "^leak 0");
-        bad(5, full + "^claim");
-        bad(1, full + "^east");
-        bad(1, full + "^leaks 1;");
-        bad(1, full + "^7");
-        bad(1, full + "^)");
-        bad(5, full + "repeat 1(^leak 1;);");
-        bad(2, full + "repeat ^0(leak 1;);");
-        bad(4, full + "repeat 1(repeat 1(^repeat 1(leak 1;););)");
-        bad(5, "street 8;repeat 20(repeat 11(^leak 1;););");
-        bad(5, "street 8;repeat 20(repeat 20(^leak 1;);hours 1;);");
-        bad(5, "street 8;repeat 20(repeat 5(leak 1;leak 1;^hours 1;););");
+        CHECKS.good(full);
+        CHECKS.good(full + "repeat 20();");
+        CHECKS.bad(5, full + "^leak 1;");
+        CHECKS.bad(5, full + "^leak 0");
+        CHECKS.bad(5, full + "^claim");
+        CHECKS.bad(1, full + "^east");
+        CHECKS.bad(1, full + "^leaks 1;");
+        CHECKS.bad(1, full + "^7");
+        CHECKS.bad(1, full + "^)");
+        CHECKS.bad(5, full + "repeat 1(^leak 1;);");
+        CHECKS.bad(2, full + "repeat ^0(leak 1;);");
+        CHECKS.bad(4, full + "repeat 1(repeat 1(^repeat 1(leak 1;););)");
+        CHECKS.bad(5, "street 8;repeat 20(repeat 11(^leak 1;););");
+        CHECKS.bad(5, "street 8;repeat 20(repeat 20(^leak 1;);hours 1;);");
+        CHECKS.bad(5, "street 8;repeat 20(repeat 5(leak 1;leak 1;^hours 1;););");
     }
 
     private static void laterRepetition() {
-        bad(3, "street 8;repeat 5(gas 200^;);");
-        bad(2, "street 8;parcel 1 0 1 7;repeat 2(gas 1;claim 0 ^7;);");
-        bad(3, "street 8;repeat 2(parcel 1 0 1 7^;);");
-        bad(3, "street 8;repeat 5(gas 200^;)oops");
-        bad(1, "street 8;repeat 4(gas 200;)^oops");
-        bad(2, "street 8;repeat 2(parcel 1 0 1 7;claim 0 7;);claim 0 ^7;");
+        CHECKS.bad(3, "street 8;repeat 5(gas 200^;);");
+        CHECKS.bad(2, "street 8;parcel 1 0 1 7;repeat 2(gas 1;claim 0 ^7;);");
+        CHECKS.bad(3, "street 8;repeat 2(parcel 1 0 1 7^;);");
+        CHECKS.bad(3, "street 8;repeat 5(gas 200^;)oops");
+        CHECKS.bad(1, "street 8;repeat 4(gas 200;)^oops");
+        CHECKS.bad(2, "street 8;repeat 2(parcel 1 0 1 7;claim 0 7;);claim 0 ^7;");
     }
 
     private static void firstErrorCounts() {
-        bad(2, "street 8;roof ^8;");
-        bad(2, "street 8;roof ^9 10 11;");
-        bad(2, "street ^7 roof");
-        bad(2, "street 8;roof 0 0;tie ^0;");
-        bad(1, "street 8;balloon 0 9 9^oops");
-        bad(3, "street 8;balloon 0 9 9;moor 0^;oops");
+        CHECKS.bad(2, "street 8;roof ^8;");
+        CHECKS.bad(2, "street 8;roof ^9 10 11;");
+        CHECKS.bad(2, "street ^7 roof");
+        CHECKS.bad(2, "street 8;roof 0 0;tie ^0;");
+        CHECKS.bad(1, "street 8;balloon 0 9 9^oops");
+        CHECKS.bad(3, "street 8;balloon 0 9 9;moor 0^;oops");
     }
 
     private static void everyCommand() {
@@ -333,12 +333,12 @@ public final class InputAndScriptTest {
         cutOff("street 8;gas 12|;", 15);
         cutOff("street 8;| gas 12;", -1);
         String blanks = " ".repeat(600 - "street 8;gas 1".length());
-        good("street 8;" + blanks + "gas1;");
-        good("street 8;gas 1" + blanks.substring(1) + ";");
-        good("street 8;leak1;" + blanks.substring(1));
-        bad(1, "street 8;gas " + blanks + "1^");
-        bad(1, "street 8;gas 1" + blanks + "^");
-        bad(1, "street 8; " + blanks + "^east");
+        CHECKS.good("street 8;" + blanks + "gas1;");
+        CHECKS.good("street 8;gas 1" + blanks.substring(1) + ";");
+        CHECKS.good("street 8;leak1;" + blanks.substring(1));
+        CHECKS.bad(1, "street 8;gas " + blanks + "1^");
+        CHECKS.bad(1, "street 8;gas 1" + blanks + "^");
+        CHECKS.bad(1, "street 8; " + blanks + "^east");
     }
 
     /** Only what stands in front of the stroke is executed. */
@@ -368,26 +368,5 @@ public final class InputAndScriptTest {
         CHECKS.same("parcels before it lie nowhere", post.parcelsAt(3), 0);
         CHECKS.same("parcels before it have no numbers", post.parcelWith(5), -1);
         CHECKS.same("the balloon carries none of them", post.parcelsOf(0), 0);
-    }
-
-    // ---- the forms of the checks
-
-    private static void good(String script) {
-        BalloonPost post = new BalloonPost();
-        int answer = Checks.run(post, script);
-        CHECKS.same(script + ": kind", post.scriptErrorKind(), 0);
-        CHECKS.same(script + ": offset", post.scriptErrorOffset(), -1);
-        CHECKS.same(script + ": answer", answer, post.parcelCount());
-        CHECKS.same(script + ": undoCount", post.undoCount(), 1);
-    }
-
-    /** The sign ^ stands in front of the token at which the error is due, and is no part of the script. */
-    private static void bad(int kind, String marked) {
-        String script = marked.replace("^", "");
-        BalloonPost post = new BalloonPost();
-        CHECKS.same(marked + ": answer", Checks.run(post, script), -1);
-        CHECKS.same(marked + ": kind", post.scriptErrorKind(), kind);
-        CHECKS.same(marked + ": offset", post.scriptErrorOffset(), marked.indexOf('^'));
-        CHECKS.same(marked + ": undoCount", post.undoCount(), 0);
     }
 }

@@ -1,8 +1,14 @@
 import java.util.function.IntSupplier;
+import java.util.function.IntUnaryOperator;
+import java.util.function.ToIntBiFunction;
+import java.util.function.ToIntFunction;
 
 /** What the tests have in common: counting wrong answers, and feeding scripts into the input buffer. */
 public final class Checks {
     private static final int CHUNK = 20;
+    private static final String FEWEST_THINGS = "street 8;";
+    private static final String SOME_THINGS = "street 12;balloon 1 9 9;balloon 11 9 9;balloon 5 9 9;parcel 1 1 0 1;parcel 2 11 0 2;";
+    private static final String MOST_THINGS = "street 30;repeat 8(balloon 29 9 9;);repeat 15(parcel 1 0 1 7;claim 0 7;);parcel 1 29 1 7;tie 15 7;";
 
     private final String group;
     private int made = 0;
@@ -21,30 +27,33 @@ public final class Checks {
     }
 
     public void throwsIndex(String what, IntSupplier call) {
-        same(what, IndexOutOfBoundsException.class, call);
+        refuses(what, IndexOutOfBoundsException.class, call);
     }
 
     public void throwsArgument(String what, IntSupplier call) {
-        same(what, IllegalArgumentException.class, call);
+        refuses(what, IllegalArgumentException.class, call);
     }
 
     public void throwsState(String what, IntSupplier call) {
-        same(what, IllegalStateException.class, call);
+        refuses(what, IllegalStateException.class, call);
     }
 
     public void throwsNoSuch(String what, IntSupplier call) {
-        same(what, java.util.NoSuchElementException.class, call);
+        refuses(what, java.util.NoSuchElementException.class, call);
     }
 
     /** The very class: a subclass would be one that the machine throws. */
-    private void same(String what, Class<?> want, IntSupplier call) {
-        String got;
+    public void refuses(String what, Class<?> want, IntSupplier call) {
+        sameText(what, exceptionOf(call), want.getName());
+    }
+
+    private static String exceptionOf(IntSupplier call) {
         try {
-            got = String.valueOf(call.getAsInt());
+            call.getAsInt();
+            return "no exception";
         } catch (RuntimeException e) {
-            got = e.getClass().getName();
+            return e.getClass().getName();
         }
-        count(got.equals(want.getName()), what, got, want.getName());
     }
 
     private void count(boolean right, String what, String got, String want) {
@@ -53,6 +62,61 @@ public final class Checks {
             wrong++;
             System.out.println(group + ": " + what + " answered " + got + ", due is " + want);
         }
+    }
+
+    /** Both ends of a range are taken. */
+    public void takesRange(String what, int low, int high, IntUnaryOperator call) {
+        for (int value : new int[] {low, high}) {
+            sameText(what + " " + value + " is taken", exceptionOf(() -> call.applyAsInt(value)), "no exception");
+        }
+    }
+
+    /** What lies outside of a range is refused with this exception. */
+    public void refusesOutside(String what, int low, int high, Class<?> want, IntUnaryOperator call) {
+        for (int value : new int[] {low - 1, high + 1, Integer.MIN_VALUE, Integer.MAX_VALUE}) {
+            refuses(what + " " + value, want, () -> call.applyAsInt(value));
+        }
+    }
+
+    /** Whatever else a call refuses: the number of a thing is taken as an index, and what lies outside of all of them is not. */
+    public void needsIndex(String what, ToIntFunction<BalloonPost> count, ToIntBiFunction<BalloonPost, Integer> call) {
+        for (String script : new String[] {FEWEST_THINGS, SOME_THINGS, MOST_THINGS}) {
+            int things = count.applyAsInt(after(script));
+            refusesOutside(what + " of " + things, 0, things - 1, IndexOutOfBoundsException.class, number -> call.applyAsInt(after(script), number));
+            for (int number = 0; number < things; number++) {
+                int index = number;
+                String exception = exceptionOf(() -> call.applyAsInt(after(script), index));
+                same(what + " " + number + " of " + things + " is an index", exception.contains("IndexOutOfBounds") ? 0 : 1, 1);
+            }
+        }
+    }
+
+    /** The script is executed on a new object without an error. */
+    public void good(String script) {
+        BalloonPost post = new BalloonPost();
+        int answer = run(post, script);
+        same(script + ": kind", post.scriptErrorKind(), 0);
+        same(script + ": offset", post.scriptErrorOffset(), -1);
+        same(script + ": answer", answer, post.parcelCount());
+        same(script + ": undoCount", post.undoCount(), 1);
+    }
+
+    /** The sign ^ stands in front of the token at which the error is due, and is no part of the script. */
+    public void bad(int kind, String marked) {
+        bad(kind, marked.indexOf('^'), marked.replace("^", ""));
+    }
+
+    /** The script, on a new object, has this error at this offset. */
+    public void bad(int kind, int offset, String script) {
+        BalloonPost post = new BalloonPost();
+        same(script + ": answer", run(post, script), -1);
+        same(script + ": kind", post.scriptErrorKind(), kind);
+        same(script + ": offset", post.scriptErrorOffset(), offset);
+        same(script + ": undoCount", post.undoCount(), 0);
+    }
+
+    public int made() {
+        return made;
     }
 
     public void finish() {
@@ -102,7 +166,8 @@ public final class Checks {
         text.append(' ').append(post.takings()).append(' ').append(post.deliveredCount());
         text.append(' ').append(post.meanLift()).append(' ').append(post.claimedShare());
         text.append(' ').append(post.violations()).append(' ').append(post.flyingBalloons());
-        for (int hour = 0; hour < 12 * 11; hour++) {
+        // Two rows of at most 12 gusts that are alike for 12 + 12 - 1 hours are alike for ever.
+        for (int hour = 0; hour < 23; hour++) {
             text.append(hour == 0 ? "\ngusts " : ",").append(post.gustAt(hour));
         }
         for (int place = 0; place < post.streetLength(); place++) {
